@@ -93,7 +93,7 @@ public final class HatRound {
 
     public int wipe() {
         int before = text.length;
-        text.length = 0;
+        text.clear();
         return before;
     }
 
@@ -553,8 +553,13 @@ public final class HatRound {
             }
         }
 
+        void clear() {
+            length = 0;
+        }
+
+        /** NONE behind the end, which is no byte. */
         int byteAt(int place) {
-            return isWithin(place, 0, length - 1) && place < TEXT_MOST ? bytes[place] : NONE;
+            return place >= 0 && place < length && place < bytes.length ? bytes[place] : NONE;
         }
 
         int firstFault() {
@@ -644,7 +649,7 @@ public final class HatRound {
 
         private static int figureOf(int[] figures, int number, int width, int figure) {
             int place = number * width + figure;
-            return isWithin(place, 0, figures.length - 1) ? figures[place] : 0;
+            return place >= 0 && place < figures.length ? figures[place] : 0;
         }
     }
 
@@ -702,15 +707,15 @@ public final class HatRound {
         }
 
         int moodOf(int person) {
-            return isWithin(person, 0, PEOPLE_MOST - 1) ? mood[person] : 0;
+            return person >= 0 && person < PEOPLE_MOST ? mood[person] : 0;
         }
 
         int patienceOf(int person) {
-            return isWithin(person, 0, PEOPLE_MOST - 1) ? patience[person] : 0;
+            return person >= 0 && person < PEOPLE_MOST ? patience[person] : 0;
         }
 
         int timesPlayed(int tune) {
-            return isWithin(tune, 0, TUNES_MOST - 1) ? played[tune] : 0;
+            return tune >= 0 && tune < TUNES_MOST ? played[tune] : 0;
         }
 
         int giftOf(int person) {

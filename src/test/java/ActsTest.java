@@ -82,6 +82,8 @@ public final class ActsTest {
         DUE.is("it waits however often", y.play(0), 0);
         HatRound z = Due.square("HP099000P099001P099002P099003P099004P099005T111");
         DUE.is("one draws the next", z.play(0), 6);
+        HatRound w = Due.square("HP099005P099000P099000P099000P099000P099000T111");
+        DUE.is("the first comes, too", w.play(0), 6);
     }
 
     private static void playRefuses() {

@@ -174,6 +174,10 @@ public final class PlansTest {
         z.play(0);
         DUE.is("the most that can be laid", z.bestBait(0), 9);
         DUE.is("nobody", new HatRound().bestBait(1), 0);
+        HatRound w = Due.square("HP029000P199000T019");
+        w.bait(9);
+        DUE.is("a plan that brings more", w.plan(2, 0), 20);
+        DUE.is("is not looked at behind it", w.bestBait(0), 3);
         DUE.is("bestBait(-1)", x.bestBait(-1), HatRound.BAD);
         DUE.is("bestBait(2)", x.bestBait(2), HatRound.BAD);
     }
@@ -193,6 +197,9 @@ public final class PlansTest {
         DUE.is("judged(8, 99999999)", x.judged(8, 99999999), 0);
         DUE.is("judged(8, 11111): 0, 0, 0, 1, 1, 1, ..", x.judged(8, 11111), 6);
         DUE.about("nothing changed", x, 2, 2, 0, 0, 0, 1, 2, 0);
+        HatRound last = Due.square("HP001000T011");
+        DUE.is("only what is told is done", last.judged(1, 0), HatRound.NONE);
+        DUE.is("once more", last.judged(2, 0), 1);
         HatRound y = Due.square("HP395300");
         DUE.is("slips off from the front", y.judged(1, 4), 0);
         DUE.is("not from the back", y.judged(1, 5), HatRound.NONE);

@@ -14,6 +14,7 @@ public final class SquareTest {
         person();
         personWhoLeft();
         tune();
+        lastOfAll();
         DUE.end();
     }
 
@@ -244,5 +245,20 @@ public final class SquareTest {
         DUE.is("tune(-1, 0)", x.tune(-1, 0), HatRound.UNKNOWN);
         DUE.is("tune(3, 0)", x.tune(3, 0), HatRound.UNKNOWN);
         DUE.is("UNKNOWN is told ahead of BAD", x.tune(3, 4), HatRound.UNKNOWN);
+    }
+
+    private static void lastOfAll() {
+        HatRound x = Due.square("H" + "P000000".repeat(5) + "P286210" + "T010".repeat(3) + "T123");
+        x.play(3);
+        int[] person = {2, 13, 4, 2, 1, 0, 1};
+        for (int what = 0; what < 7; what++) {
+            DUE.is("person(5, " + what + ")", x.person(5, what), person[what]);
+        }
+        int[] tune = {1, 2, 3, 1};
+        for (int what = 0; what < 4; what++) {
+            DUE.is("tune(3, " + what + ")", x.tune(3, what), tune[what]);
+        }
+        DUE.is("person(6, 0)", x.person(6, 0), HatRound.UNKNOWN);
+        DUE.is("tune(4, 0)", x.tune(4, 0), HatRound.UNKNOWN);
     }
 }
