@@ -189,24 +189,18 @@ public final class ActsTest {
         DUE.about("all three", x, 4, 1, 3, 5, 3, 5, 0, 3, 1);
         DUE.is("undo the hat", x.undo(), 2);
         DUE.about("the hat undone", x, 4, 1, 2, 0, 1, 7, 0, 2, 1);
-        people(x, 1, 15, 14, 7, 4);
-        people(x, 2, 3, 0, 5, HatRound.NONE);
+        DUE.people("undone", x, 1, 15, 14, 7, 4);
+        DUE.people("undone", x, 2, 3, 0, 5, HatRound.NONE);
         DUE.is("played", x.tune(0, 3), 1);
         DUE.is("undo the tune", x.undo(), 1);
         DUE.about("the tune undone", x, 4, 1, 0, 0, 1, 11, 4, 1, 1);
-        people(x, 1, 9, 8, 7, 4);
-        people(x, 2, 5, 2, 5, 0);
+        DUE.people("undone", x, 1, 9, 8, 7, 4);
+        DUE.people("undone", x, 2, 5, 2, 5, 0);
         DUE.is("not played", x.tune(0, 3), 0);
         DUE.is("undo the bait", x.undo(), 0);
         DUE.about("the bait undone", x, 4, 1, 0, 0, 0, 11, 4, 0, 1);
         DUE.is("undo of none", x.undo(), HatRound.LATE);
         DUE.is("the seed is no act", x.seed(0), 9);
-    }
-
-    private static void people(HatRound x, int what, int... want) {
-        for (int person = 0; person < want.length; person++) {
-            DUE.is("person(" + person + ", " + what + ")", x.person(person, what), want[person]);
-        }
     }
 
     private static void undoForgetsTheFirst() {

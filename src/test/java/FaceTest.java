@@ -2,8 +2,6 @@ import java.lang.reflect.Constructor;
 import java.lang.reflect.Field;
 import java.lang.reflect.Method;
 import java.lang.reflect.Modifier;
-import java.nio.file.Files;
-import java.nio.file.Path;
 import java.util.Set;
 import java.util.TreeSet;
 import java.util.regex.Matcher;
@@ -23,7 +21,7 @@ public final class FaceTest {
     public static void main(String[] args) throws Exception {
         face();
         privateMembers();
-        language(Files.readString(Path.of("src/main/java/HatRound.java")));
+        language(Due.fileText("src/main/java/HatRound.java"));
         for (String text : new String[] {"", "H", "HT010", "HP000000", "HP395325P009000T299T010P029001"}) {
             noCallThrows(text);
         }
