@@ -149,20 +149,11 @@ public final class ActsEdgesTest {
         }
     }
 
-    /** One person with a mood of 0 .. 20. */
-    private static HatRound mood(int mood) {
-        HatRound x = Due.square("HP0" + Math.min(mood, 9) + "9000T11" + Math.max(0, Math.min(9, mood - 9)) + "T11" + Math.max(0, mood - 18));
-        x.play(0);
-        x.play(1);
-        DUE.is("the test's own mood", x.person(0, 1), mood);
-        return x;
-    }
-
     private static void giftIsHalfCut() {
         DUE.says("A GIFT of one is half its MOOD (cut)");
         int[] half = {0, 0, 1, 1, 2, 2, 3, 3, 4, 4, 5, 5, 6, 6, 7, 7, 8, 8, 9, 9, 10};
         for (int mood = 0; mood <= 20; mood++) {
-            HatRound x = mood(mood);
+            HatRound x = Due.ofMood(mood);
             x.bait(9);
             DUE.is("mood " + mood, x.person(0, 6), half[mood]);
             DUE.is("mood " + mood + ", given", x.round(0), half[mood]);
@@ -171,13 +162,13 @@ public final class ActsEdgesTest {
 
     private static void giftOneMoreThanBait() {
         DUE.says("at most 1 more than BAIT");
-        HatRound x = mood(20);
+        HatRound x = Due.ofMood(20);
         for (int bait = 9; bait >= 0; bait--) {
             x.bait(bait);
             DUE.is("bait " + bait, x.person(0, 6), bait + 1);
             DUE.is("bait " + bait + ", would be given", x.would(0, 0), bait + 1);
         }
-        HatRound y = mood(9);
+        HatRound y = Due.ofMood(9);
         int[] gift = {1, 2, 3, 4, 4, 4, 4, 4, 4, 4};
         for (int bait = 9; bait >= 0; bait--) {
             y.bait(bait);
@@ -224,7 +215,7 @@ public final class ActsEdgesTest {
             x.round(0);
             DUE.is("a gift of 4 at most on " + bait, x.about(4), bait < 4 ? bait + 1 : bait);
         }
-        HatRound x = mood(20);
+        HatRound x = Due.ofMood(20);
         x.bait(9);
         DUE.is("10", x.round(0), 10);
         DUE.is("10, which can not be laid", x.about(4), 10);
@@ -403,7 +394,7 @@ public final class ActsEdgesTest {
 
     private static void bait() {
         DUE.says("`int bait(int v)`: BAIT is laid: what it was. BAD; LATE: it is so.");
-        HatRound x = mood(20);
+        HatRound x = Due.ofMood(20);
         DUE.is("0 is so", x.bait(0), HatRound.LATE);
         DUE.is("9", x.bait(9), 0);
         DUE.is("9 is so", x.bait(9), HatRound.LATE);

@@ -110,4 +110,15 @@ final class Due {
         }
         return x;
     }
+
+    /** One person in front with a mood of 0 .. 20, made by two tunes. */
+    static HatRound ofMood(int mood) {
+        int first = Math.min(9, Math.max(0, mood - 9));
+        int second = Math.max(0, mood - 18);
+        HatRound x = playedTo("HP0" + Math.min(9, mood) + "9000T11" + first + "T11" + second, 0, 1);
+        if (x.person(0, 1) != mood) {
+            throw new IllegalStateException("the test's own mood is " + x.person(0, 1) + ", not " + mood);
+        }
+        return x;
+    }
 }

@@ -5,6 +5,8 @@ public final class ModelTest {
     private static final Due DUE = new Due("ModelTest");
     private static final int RUNS = 1500;
     private static final int CALLS = 512;
+    /** A new square takes fewer calls than this, so that none is begun that would go beyond what the document speaks of. */
+    private static final int SQUARE_CALLS = 80;
 
     private final Random random;
     private final HatRound x = new HatRound();
@@ -26,7 +28,7 @@ public final class ModelTest {
 
     private void go() {
         while (calls < CALLS) {
-            if (calls == 0 || random.nextInt(120) == 0) {
+            if (calls == 0 || random.nextInt(120) == 0 && calls < CALLS - SQUARE_CALLS) {
                 newSquare();
             } else if (random.nextInt(3) == 0) {
                 act();

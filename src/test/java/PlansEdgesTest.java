@@ -215,9 +215,7 @@ public final class PlansEdgesTest {
         DUE.says("BAIT that is BEST for a side: that (0 .. 9) by which THE HAT brings most now; of like ones the least.");
         int[] best = {0, 0, 0, 0, 1, 1, 2, 2, 3, 3, 4, 4, 5, 5, 6, 6, 7, 7, 8, 8, 9};
         for (int mood = 0; mood <= 20; mood++) {
-            HatRound x = Due.square("HP0" + Math.min(mood, 9) + "9000T11" + Math.max(0, Math.min(9, mood - 9)) + "T11" + Math.max(0, mood - 18));
-            x.play(0);
-            x.play(1);
+            HatRound x = Due.ofMood(mood);
             DUE.is("mood " + mood, x.bestBait(0), best[mood]);
             x.bait(9);
             DUE.is("mood " + mood + ", whatever is laid", x.bestBait(1), best[mood]);
