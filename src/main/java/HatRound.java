@@ -479,7 +479,7 @@ public final class HatRound {
         return hatTrial.passHat(side);
     }
 
-    /** Leaves in best the row and the side as one number, row times SIDES and side, so that the first of like ones is the least. */
+    /** Leaves in best row times SIDES and side: one number, so that the first of like ones is the least. */
     private void searchPlan(int n) {
         best.clear();
         int end = power(10, n);

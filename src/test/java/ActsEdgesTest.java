@@ -34,7 +34,7 @@ public final class ActsEdgesTest {
     }
 
     private static void patienceLessThanNone() {
-        DUE.says("each that STANDS has PATIENCE less by its length (who has less than none then leaves)");
+        DUE.says("PLAYED: a TUNE: each that STANDS has PATIENCE less by its length (who has less than none then leaves)");
         for (int minutes = 1; minutes <= 9; minutes++) {
             for (int patience = 0; patience <= 9; patience++) {
                 HatRound x = Due.square("HP00" + patience + "000T1" + minutes + "3");
@@ -49,7 +49,7 @@ public final class ActsEdgesTest {
     }
 
     private static void goodNoneAtLeast() {
-        DUE.says("MOOD more by GOOD less how often it was PLAYED already (0 at least)");
+        DUE.says("else MOOD more by GOOD less how often it was PLAYED already (0 at least)");
         for (int good = 0; good <= 9; good++) {
             HatRound x = Due.square("HP009000T11" + good);
             int mood = 0;

@@ -10,22 +10,35 @@ import java.util.regex.Pattern;
 /** The face of the document, what of LANGUAGE.md can be read off the file, and that no call throws. */
 public final class FaceTest {
     private static final Due DUE = new Due("FaceTest");
-    private static final String FACE = "int write(int); int wipe(); int fault(); int square(); int about(int);"
-        + " int person(int,int); int tune(int,int); int play(int); int round(int); int bait(int); int undo();"
-        + " int would(int,int); int plan(int,int); int soon(int); int grows(int,int); int bestBait(int);"
-        + " int judged(int,int); int never(); int louder(int,int); int shares(int,int,int); int gave(int,int);"
-        + " int see(int,boolean); int unsee(); int luck(int,int,boolean); long seed(long); int day(int);"
-        + " int keep(int); int again(int)";
+    private static final Pattern PRINTED = Pattern.compile("```java\\s+public final class HatRound \\{([\\s\\S]*?)\\}\\s+```");
+    private static final Pattern AHEAD = Pattern.compile("Ahead of the calls ([^:]*) the interface says: (---- [a-z, ]*)\\.");
+    private static final Pattern OPENING = Pattern.compile("(?:    |        )(?:[\\w\\[\\]]+ )*(\\w+)\\(.*\\) \\{");
     private static final int[] EXTREMES = {Integer.MIN_VALUE, -10, -1, 0, 1, 5, 6, 9, 10, 63, 64, 99, 100, 256, 1000000000, Integer.MAX_VALUE};
 
     public static void main(String[] args) throws Exception {
-        face();
+        String source = Due.fileText("src/main/java/HatRound.java");
+        String[] printed = printedFace();
+        face(printed);
+        writtenAsPrinted(source, printed);
+        writtenUnderItsHeading(source);
+        constants();
         privateMembers();
-        language(Due.fileText("src/main/java/HatRound.java"));
+        language(source);
+        sizes();
+        methods(source);
         for (String text : new String[] {"", "H", "HT010", "HP000000", "HP395325P009000T299T010P029001"}) {
             noCallThrows(text);
         }
         DUE.end();
+    }
+
+    /** The lines of the face as the document prints it, the constants first. */
+    private static String[] printedFace() {
+        Matcher printed = PRINTED.matcher(Due.fileText("../shared/DOC.md"));
+        if (!printed.find()) {
+            throw new IllegalStateException("the document prints no face");
+        }
+        return printed.group(1).strip().split("\\s*\\n\\s*");
     }
 
     private static String told(Method m) {
@@ -36,9 +49,20 @@ public final class FaceTest {
         return told.append(")").toString();
     }
 
-    private static void face() {
+    /** A printed line as reflection tells it: without the names of what is given. */
+    private static String told(String line) {
+        return line.replace("public ", "").replaceAll("(int|long|boolean) \\w+(?=[,)])", "$1").replace(", ", ",").replace(";", "");
+    }
+
+    private static void face(String[] printed) {
         DUE.isTrue("the class is public and final", HatRound.class.getModifiers() == (Modifier.PUBLIC | Modifier.FINAL));
-        Set<String> due = new TreeSet<>(Set.of(FACE.split("; ")));
+        Set<String> due = new TreeSet<>();
+        for (String line : printed) {
+            if (line.contains(")") && !line.contains("public HatRound(")) {
+                due.add(told(line));
+            }
+        }
+        DUE.is("methods that the document prints", due.size(), 28);
         Set<String> got = new TreeSet<>();
         for (Method m : HatRound.class.getDeclaredMethods()) {
             if (!Modifier.isPrivate(m.getModifiers())) {
@@ -49,6 +73,42 @@ public final class FaceTest {
         DUE.isTrue("methods " + got, got.equals(due));
         Constructor<?>[] made = HatRound.class.getDeclaredConstructors();
         DUE.isTrue("one public constructor", made.length == 1 && made[0].getModifiers() == Modifier.PUBLIC && made[0].getParameterCount() == 0);
+    }
+
+    private static void writtenAsPrinted(String source, String[] printed) {
+        int at = 0;
+        for (String line : printed) {
+            String written = line.endsWith(");") ? line.replace(");", ") {") : line;
+            int found = source.indexOf("\n    " + written + "\n", at);
+            DUE.isTrue(line + " stands in the file, in its turn", found >= 0);
+            at = Math.max(at, found);
+        }
+    }
+
+    private static void writtenUnderItsHeading(String source) {
+        Matcher ahead = AHEAD.matcher(Due.document());
+        int headings = 0;
+        while (ahead.find()) {
+            headings++;
+            int from = source.indexOf("    // " + ahead.group(2) + "\n");
+            DUE.isTrue(ahead.group(2) + " stands in the file", from >= 0);
+            String under = from < 0 ? "" : source.substring(from, Math.max(from, source.indexOf("    // ----", from + 1)));
+            StringBuilder calls = new StringBuilder();
+            Matcher call = Pattern.compile("\n    public \\w+ (\\w+)\\(").matcher(under);
+            while (call.find()) {
+                calls.append(calls.length() == 0 ? "`" : ", `").append(call.group(1)).append("`");
+            }
+            DUE.isTrue(ahead.group(2) + " stands ahead of " + calls, calls.toString().equals(ahead.group(1)));
+        }
+        DUE.is("headings", headings, 6);
+    }
+
+    private static void constants() {
+        DUE.is("UNKNOWN", HatRound.UNKNOWN, -1);
+        DUE.is("BAD", HatRound.BAD, -2);
+        DUE.is("LATE", HatRound.LATE, -3);
+        DUE.is("FULL", HatRound.FULL, -4);
+        DUE.is("NONE", HatRound.NONE, -9);
     }
 
     private static void privateMembers() {
@@ -83,6 +143,50 @@ public final class FaceTest {
         while (library.find()) {
             DUE.isTrue("import " + library.group(1), library.group(1).equals("java.util.Arrays"));
         }
+    }
+
+    /** The numbers of rule 11. */
+    private static void sizes() {
+        DUE.isTrue("twelve classes at most", HatRound.class.getDeclaredClasses().length < 12);
+        sizesOf(HatRound.class);
+        for (Class<?> inside : HatRound.class.getDeclaredClasses()) {
+            sizesOf(inside);
+        }
+    }
+
+    private static void sizesOf(Class<?> one) {
+        int fields = 0;
+        for (Field f : one.getDeclaredFields()) {
+            fields += Modifier.isStatic(f.getModifiers()) ? 0 : 1;
+        }
+        DUE.isTrue(one + " has twenty fields at most", fields <= 20);
+        for (Method m : one.getDeclaredMethods()) {
+            DUE.isTrue(m + " takes seven at most", m.getParameterCount() <= 7);
+        }
+    }
+
+    /** Methods stay short, and none but a constructor makes an object, so that many calls live in one room. */
+    private static void methods(String source) {
+        String[] lines = source.split("\n");
+        int found = 0;
+        for (int i = 0; i < lines.length; i++) {
+            Matcher opening = OPENING.matcher(lines[i]);
+            if (!opening.matches()) {
+                continue;
+            }
+            found++;
+            String end = lines[i].replaceAll("\\S.*", "") + "}";
+            boolean makes = false;
+            int last = i;
+            while (last + 1 < lines.length && !lines[last].equals(end)) {
+                last++;
+                makes |= lines[last].contains("new ");
+            }
+            boolean isConstructor = Character.isUpperCase(opening.group(1).charAt(0));
+            DUE.isTrue(opening.group(1) + " has sixty lines at most", last - i < 60);
+            DUE.isTrue(opening.group(1) + " makes no object", isConstructor || !makes);
+        }
+        DUE.isTrue("methods were found: " + found, found > 60);
     }
 
     /** What is thrown here ends the test with a stack. */

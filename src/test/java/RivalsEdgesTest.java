@@ -25,7 +25,7 @@ public final class RivalsEdgesTest {
     }
 
     private static void alikeHaveHalf() {
-        DUE.says("two players choose how loud they are (0 .. 5); k people (1 .. 20) go to the louder one (to each half, if they are alike); each has 2 for one that comes (1 for half a one), less its loudness times itself");
+        DUE.says("LOUDER: two players choose how loud they are (0 .. 5); k people (1 .. 20) go to the louder one (to each half, if they are alike); each has 2 for one that comes (1 for half a one), less its loudness times itself");
         HatRound x = new HatRound();
         DUE.is("by 1 the least loudness rests", x.louder(1, 1), 0);
         DUE.is("by 2 it does not: 4 less 1 is more than 2", x.louder(2, 1), 11);

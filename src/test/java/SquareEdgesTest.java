@@ -5,6 +5,7 @@ public final class SquareEdgesTest {
     private static final String FOUR = "T010".repeat(4);
 
     public static void main(String[] args) {
+        peopleFromNone();
         sixPeople();
         setsAreBits();
         fourRows();
@@ -44,6 +45,14 @@ public final class SquareEdgesTest {
         HatRound x = new HatRound();
         Due.write(x, text);
         return x.square();
+    }
+
+    private static void peopleFromNone() {
+        DUE.says("PEOPLE are 0, 1, ..");
+        HatRound x = Due.square("HP110000P220000T010P330000");
+        DUE.people("each by its number, tunes set aside", x, 1, 1, 2, 3);
+        DUE.is("none ahead of the first", x.person(-1, 1), HatRound.UNKNOWN);
+        DUE.is("none behind the last", x.person(3, 1), HatRound.UNKNOWN);
     }
 
     private static void sixPeople() {
@@ -363,7 +372,7 @@ public final class SquareEdgesTest {
         HatRound x = Due.square("H" + SIX + FOUR);
         DUE.within("about, empty", empty::about, 0, 9, HatRound.BAD);
         DUE.within("about", x::about, 0, 9, HatRound.BAD);
-        DUE.says("PEOPLE (what = 0), TUNES (1), THE MINUTE (2), THE HAT (3), BAIT (4)");
+        DUE.says("`int about(int what)`: PEOPLE (what = 0), TUNES (1), THE MINUTE (2), THE HAT (3), BAIT (4)");
         DUE.about("the most", x, 6, 4, 0, 0, 0, 63, 0, 0, 0, 59);
     }
 
